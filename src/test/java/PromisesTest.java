@@ -1,58 +1,19 @@
 /** The promises of the document, one by one: ordinary inputs, the edges that it names, and wrong inputs. */
 public final class PromisesTest {
-    private static final Class<IndexOutOfBoundsException> INDEX = IndexOutOfBoundsException.class;
-    private static final Class<IllegalArgumentException> ARGUMENT = IllegalArgumentException.class;
-    private static final Class<IllegalStateException> STATE = IllegalStateException.class;
-    private static final int[] NO_RODS = {-1, 9, 100, Integer.MIN_VALUE, Integer.MAX_VALUE};
+    private static final Class<IndexOutOfBoundsException> INDEX = Check.INDEX;
+    private static final Class<IllegalArgumentException> ARGUMENT = Check.ARGUMENT;
+    private static final Class<IllegalStateException> STATE = Check.STATE;
+    private static final int[] NO_RODS = Given.NO_RODS;
 
     private PromisesTest() {
-    }
-
-    private static void write(StuckRods x, String text) {
-        for (int i = 0; i < text.length(); i++) {
-            x.append(text.charAt(i));
-        }
-    }
-
-    /** What all rods show, from the rod 8 to the rod 0, with a blank between. */
-    private static String shown(StuckRods x) {
-        StringBuilder text = new StringBuilder();
-        for (int r = 8; r >= 0; r--) {
-            text.append(x.rod(r, 2)).append(r == 0 ? "" : " ");
-        }
-        return text.toString();
-    }
-
-    private static void shows(String what, StuckRods x, String due) {
-        Check.holds(what + ": shows " + shown(x) + ", due is " + due, shown(x).equals(due));
-    }
-
-    private static void rodIs(String what, StuckRods x, int rod, int... due) {
-        for (int k = 0; k < due.length; k++) {
-            Check.due(what + ": rod(" + rod + ", " + k + ")", x.rod(rod, k), due[k]);
-        }
-    }
-
-    private static void counts(String what, StuckRods x, int... due) {
-        for (int k = 0; k < due.length; k++) {
-            Check.due(what + ": count(" + k + ")", x.count(k), due[k]);
-        }
-    }
-
-    /** An abacus whose rod shows as told, all of it stuck. */
-    private static StuckRods stuckAt(int rod, int fives, int ones) {
-        StuckRods x = new StuckRods();
-        x.move(rod, fives, ones);
-        x.stick(rod, 3);
-        return x;
     }
 
     private static void promise1NewObject() {
         StuckRods x = new StuckRods();
         for (int r = 0; r < 9; r++) {
-            rodIs("new", x, r, 0, 0, 0, 100, 0, 0, 0, 16);
+            Check.rodIs("new", x, r, 0, 0, 0, 100, 0, 0, 0, 16);
         }
-        counts("new", x, 0, 0, 100, 0, 0, 0, 3, 0);
+        Check.counts("new", x, 0, 0, 100, 0, 0, 0, 3, 0);
         Check.due("new: whole", x.whole(), 0);
         Check.due("new: firstError", x.firstError(), 0);
         Check.due("new: clearBuffer", x.clearBuffer(), 0);
@@ -67,17 +28,17 @@ public final class PromisesTest {
     private static void promise2Move() {
         StuckRods x = new StuckRods();
         Check.due("move(4, 1, 3)", x.move(4, 1, 3), 4);
-        rodIs("move", x, 4, 1, 3, 8, 100, 0, 4, 0);
+        Check.rodIs("move", x, 4, 1, 3, 8, 100, 0, 4, 0);
         Check.due("move(4, 2, 1)", x.move(4, 2, 1), 3);
-        rodIs("move on", x, 4, 2, 1, 11, 100, 0, 7, 0);
+        Check.rodIs("move on", x, 4, 2, 1, 11, 100, 0, 7, 0);
         Check.due("move to where it is", x.move(4, 2, 1), 0);
         Check.due("each move is saved", x.count(7), 3);
         Check.due("move(8, 2, 5)", x.move(8, 2, 5), 7);
         Check.due("move(0, 0, 5)", x.move(0, 0, 5), 5);
-        shows("moves", x, "15 0 0 0 11 0 0 0 5");
+        Check.shows("moves", x, "15 0 0 0 11 0 0 0 5");
         Check.due("moves are counted", x.count(0), 19);
         x.undo();
-        shows("a move undone", x, "15 0 0 0 11 0 0 0 0");
+        Check.shows("a move undone", x, "15 0 0 0 11 0 0 0 0");
         Check.due("a move undone: moves so far", x.count(0), 14);
         moveStuck();
         moveWrongly();
@@ -103,7 +64,7 @@ public final class PromisesTest {
     }
 
     private static void moveWrongly() {
-        StuckRods x = stuckAt(2, 1, 1);
+        StuckRods x = Given.stuckAt(2, 1, 1);
         for (int rod : NO_RODS) {
             Check.refuses("move(" + rod + ", 1, 1)", x, INDEX, () -> x.move(rod, 1, 1));
             Check.refuses("move(" + rod + ", 3, 6)", x, INDEX, () -> x.move(rod, 3, 6));
@@ -126,7 +87,7 @@ public final class PromisesTest {
         Check.due("stick(0, 3)", x.stick(0, 3), 2);
         Check.due("stick(0, 3) again", x.stick(0, 3), 3);
         Check.due("stick(8, 0)", x.stick(8, 0), 0);
-        rodIs("stick", x, 0, 0, 0, 0, 100, 3, 0, 0, 1);
+        Check.rodIs("stick", x, 0, 0, 0, 0, 100, 3, 0, 0, 1);
         Check.due("stick is saved, also if it changes nothing", x.count(7), 5);
         Check.due("stick(0, 0)", x.stick(0, 0), 3);
         x.undo();
@@ -158,7 +119,7 @@ public final class PromisesTest {
 
     /** Loans that are there stay, and a loan that goes towards 0 is not above the setting's bound on the other side. */
     private static void settingBelowLoans() {
-        StuckRods x = stuckAt(1, 0, 0);
+        StuckRods x = Given.stuckAt(1, 0, 0);
         x.set(9);
         for (int i = 0; i < 5; i++) {
             x.move(0, 2, 5);
@@ -177,12 +138,12 @@ public final class PromisesTest {
     private static void promise5Add() {
         StuckRods x = new StuckRods();
         Check.due("add(0, 7)", x.add(0, 7), 3);
-        rodIs("5 and 2", x, 0, 1, 2, 7, 100, 0, 3, 0);
+        Check.rodIs("5 and 2", x, 0, 1, 2, 7, 100, 0, 3, 0);
         Check.due("add(0, 3)", x.add(0, 3), 3);
-        rodIs("10: 1 and 5 by three moves as 2 and 0 are: the most fives", x, 0, 2, 0, 10, 100, 0, 6, 0);
+        Check.rodIs("10: 1 and 5 by three moves as 2 and 0 are: the most fives", x, 0, 2, 0, 10, 100, 0, 6, 0);
         Check.due("add(0, 5)", x.add(0, 5), 5);
         Check.due("add(0, 1): 6 with a carry", x.add(0, 1), 1 + 4 + 1);
-        shows("with a carry", x, "0 0 0 0 0 0 0 1 6");
+        Check.shows("with a carry", x, "0 0 0 0 0 0 0 1 6");
         Check.due("add is saved", x.count(7), 4);
         Check.due("moves of add", x.count(0), 17);
         addByCarries();
@@ -197,21 +158,21 @@ public final class PromisesTest {
             x.move(r, 2, 5);
         }
         Check.due("add(0, 9) through all rods", x.add(0, 9), 1 + 7 * 5 + 1);
-        shows("through all rods", x, "1 6 6 6 6 6 6 6 14");
+        Check.shows("through all rods", x, "1 6 6 6 6 6 6 6 14");
         Check.due("through all rods: no loan", x.count(1), 0);
         StuckRods y = new StuckRods();
         y.move(0, 2, 5);
         y.move(1, 2, 4);
         Check.due("a carry that the next rod shows as 15", y.add(0, 5), 2);
-        shows("a carry that the next rod shows as 15", y, "0 0 0 0 0 0 0 15 10");
+        Check.shows("a carry that the next rod shows as 15", y, "0 0 0 0 0 0 0 15 10");
     }
 
     private static void addByLoans() {
-        StuckRods x = stuckAt(1, 1, 2);
+        StuckRods x = Given.stuckAt(1, 1, 2);
         for (int loan = 1; loan <= 3; loan++) {
             x.move(0, 2, 0);
             Check.due("add(0, 6) with a loan", x.add(0, 6), 2);
-            rodIs("a loan", x, 1, 1, 2, 7, 100 + loan, 3, 3, loan, 1);
+            Check.rodIs("a loan", x, 1, 1, 2, 7, 100 + loan, 3, 3, loan, 1);
         }
         x.move(0, 2, 0);
         Check.refuses("add(0, 6): the loan would be 4", x, STATE, () -> x.add(0, 6));
@@ -220,7 +181,7 @@ public final class PromisesTest {
         x.set(4);
         Check.due("add(0, 9): the loan may be 4", x.add(0, 9), 1);
         Check.due("a loan of 4", x.rod(1, 3), 104);
-        StuckRods none = stuckAt(1, 0, 0);
+        StuckRods none = Given.stuckAt(1, 0, 0);
         none.set(0);
         none.move(0, 2, 5);
         Check.refuses("add(0, 1): no loan at all", none, STATE, () -> none.add(0, 1));
@@ -235,7 +196,7 @@ public final class PromisesTest {
             x.move(r, 2, 5);
         }
         Check.refuses("add(0, 1): no rod behind the last one, and no going back", x, STATE, () -> x.add(0, 1));
-        shows("add(0, 1) failed", x, "15 15 15 15 15 15 15 15 15");
+        Check.shows("add(0, 1) failed", x, "15 15 15 15 15 15 15 15 15");
         StuckRods y = new StuckRods();
         y.move(1, 0, 4);
         y.stick(1, 3);
@@ -244,14 +205,14 @@ public final class PromisesTest {
         y.move(1, 0, 5);
         Check.refuses("add(1, 1), fives stuck: neither 6 nor -4", y, STATE, () -> y.add(1, 1));
         Check.due("add(1, 9), fives stuck: 4 and a carry", y.add(1, 9), 1 + 1);
-        StuckRods z = stuckAt(8, 1, 1);
+        StuckRods z = Given.stuckAt(8, 1, 1);
         z.move(7, 2, 5);
         Check.due("add(7, 1): the last rod borrows", z.add(7, 1), 5);
         Check.due("add(7, 1): its loan", z.rod(8, 3), 101);
     }
 
     private static void addWrongly() {
-        StuckRods x = stuckAt(8, 2, 5);
+        StuckRods x = Given.stuckAt(8, 2, 5);
         for (int rod : NO_RODS) {
             Check.refuses("add(" + rod + ", 1)", x, INDEX, () -> x.add(rod, 1));
             Check.refuses("add(" + rod + ", 0)", x, INDEX, () -> x.add(rod, 0));
@@ -268,10 +229,10 @@ public final class PromisesTest {
         x.move(1, 0, 2);
         Check.due("less(0, 3)", x.less(0, 3), 3);
         Check.due("less(0, 6): 9 and a carry of -1", x.less(0, 6), 4 + 1);
-        shows("less", x, "0 0 0 0 0 0 0 1 9");
+        Check.shows("less", x, "0 0 0 0 0 0 0 1 9");
         Check.due("less is saved", x.count(7), 4);
         x.undo();
-        shows("less undone", x, "0 0 0 0 0 0 0 2 5");
+        Check.shows("less undone", x, "0 0 0 0 0 0 0 2 5");
         lessByCarries();
         lessByLoans();
         lessWrongly();
@@ -281,21 +242,21 @@ public final class PromisesTest {
         StuckRods x = new StuckRods();
         x.move(8, 0, 1);
         Check.due("less(0, 1) through all rods", x.less(0, 1), 8 * 5 + 1);
-        shows("through all rods", x, "0 9 9 9 9 9 9 9 9");
+        Check.shows("through all rods", x, "0 9 9 9 9 9 9 9 9");
         StuckRods y = new StuckRods();
         Check.refuses("less(0, 1): no rod behind the last one", y, STATE, () -> y.less(0, 1));
         Check.refuses("less(8, 9): no rod behind the last one", y, STATE, () -> y.less(8, 9));
         y.move(8, 1, 5);
         Check.due("less(8, 9)", y.less(8, 9), 5);
-        shows("less(8, 9)", y, "1 0 0 0 0 0 0 0 0");
+        Check.shows("less(8, 9)", y, "1 0 0 0 0 0 0 0 0");
     }
 
     private static void lessByLoans() {
-        StuckRods x = stuckAt(1, 0, 0);
+        StuckRods x = Given.stuckAt(1, 0, 0);
         for (int loan = 1; loan <= 3; loan++) {
             x.move(0, 0, 0);
             Check.due("less(0, 6) with a loan", x.less(0, 6), 4);
-            rodIs("a loan of less", x, 1, 0, 0, 0, 100 - loan, 3, 0, loan, 1);
+            Check.rodIs("a loan of less", x, 1, 0, 0, 0, 100 - loan, 3, 0, loan, 1);
         }
         x.move(0, 0, 0);
         Check.refuses("less(0, 6): the loan would be -4", x, STATE, () -> x.less(0, 6));
@@ -309,7 +270,7 @@ public final class PromisesTest {
         Check.due("add(0, 9): the loan -3 is not above 1", x.add(0, 9), 1);
         Check.due("a loan of -3", x.rod(1, 3), 97);
         Check.due("changes of the loan", x.rod(1, 6), 5);
-        StuckRods y = stuckAt(4, 1, 0);
+        StuckRods y = Given.stuckAt(4, 1, 0);
         Check.refuses("less(4, 1): the rod itself does not borrow", y, STATE, () -> y.less(4, 1));
     }
 
@@ -324,45 +285,22 @@ public final class PromisesTest {
         }
     }
 
-    /** An abacus that shows 0, and whose rod has a loan of n; no bead is stuck. */
-    private static StuckRods withLoan(int rod, int n) {
-        StuckRods x = new StuckRods();
-        borrow(x, rod, n);
-        return x;
-    }
-
-    private static void borrow(StuckRods x, int rod, int n) {
-        x.set(9);
-        x.stick(rod, 3);
-        for (int i = 0; i < n; i++) {
-            x.move(rod - 1, 2, 5);
-            x.add(rod - 1, 9);
-        }
-        for (int i = 0; i > n; i--) {
-            x.move(rod - 1, 0, 0);
-            x.less(rod - 1, 9);
-        }
-        x.move(rod - 1, 0, 0);
-        x.stick(rod, 0);
-        x.set(3);
-    }
-
     private static void promise7Pay() {
-        StuckRods x = withLoan(1, 2);
-        rodIs("a loan of 2", x, 1, 0, 0, 0, 102, 0, 0, 2);
+        StuckRods x = Given.withLoan(1, 2);
+        Check.rodIs("a loan of 2", x, 1, 0, 0, 0, 102, 0, 0, 2);
         Check.due("pay(1)", x.pay(1), 2);
-        rodIs("paid", x, 1, 0, 2, 2, 100, 0, 2, 2);
+        Check.rodIs("paid", x, 1, 0, 2, 2, 100, 0, 2, 2);
         Check.due("whole behind pay", x.whole(), 20);
         x.undo();
-        rodIs("pay undone", x, 1, 0, 0, 0, 102, 0, 0, 2);
+        Check.rodIs("pay undone", x, 1, 0, 0, 0, 102, 0, 0, 2);
         StuckRods none = new StuckRods();
         Check.due("pay of no loan", none.pay(1), 0);
         Check.due("pay of no loan is saved", none.count(7), 1);
-        StuckRods below = withLoan(1, -2);
+        StuckRods below = Given.withLoan(1, -2);
         Check.refuses("pay: 0 less 2 to the last rod", below, STATE, () -> below.pay(1));
         below.move(1, 1, 0);
         Check.due("pay of a loan below 0", below.pay(1), 4);
-        shows("pay of a loan below 0", below, "0 0 0 0 0 0 0 3 0");
+        Check.shows("pay of a loan below 0", below, "0 0 0 0 0 0 0 3 0");
         Check.due("pay of a loan below 0: no loan", below.count(1), 0);
         payByLoans();
         payWrongly();
@@ -370,21 +308,21 @@ public final class PromisesTest {
 
     /** Paying the rod 1 back makes the rod 2 borrow; that loan counts as one by carries, the payment does not. */
     private static void payByLoans() {
-        StuckRods x = withLoan(1, 1);
+        StuckRods x = Given.withLoan(1, 1);
         x.move(1, 2, 5);
         x.stick(2, 3);
         Check.due("pay(1): 6 with a carry", x.pay(1), 5);
-        rodIs("pay by a loan", x, 1, 1, 1, 6, 100, 0, 12, 1);
-        rodIs("the loan that came by it", x, 2, 0, 0, 0, 101, 3, 0, 1);
-        StuckRods y = withLoan(1, -1);
+        Check.rodIs("pay by a loan", x, 1, 1, 1, 6, 100, 0, 12, 1);
+        Check.rodIs("the loan that came by it", x, 2, 0, 0, 0, 101, 3, 0, 1);
+        StuckRods y = Given.withLoan(1, -1);
         y.stick(2, 3);
         Check.due("pay(1) below 0: 9 with a carry of -1", y.pay(1), 5);
-        rodIs("the loan below 0 that came by it", y, 2, 0, 0, 0, 99, 3, 0, 1);
+        Check.rodIs("the loan below 0 that came by it", y, 2, 0, 0, 0, 99, 3, 0, 1);
         Check.due("pay by a loan below 0: loans", y.count(2), 99);
     }
 
     private static void payWrongly() {
-        StuckRods x = withLoan(8, 3);
+        StuckRods x = Given.withLoan(8, 3);
         for (int rod : NO_RODS) {
             Check.refuses("pay(" + rod + ")", x, INDEX, () -> x.pay(rod));
         }
@@ -395,7 +333,7 @@ public final class PromisesTest {
         Check.refuses("pay with a carry behind the last rod", x, STATE, () -> x.pay(8));
         x.move(8, 2, 2);
         Check.due("pay to 15", x.pay(8), 3);
-        StuckRods y = withLoan(1, 1);
+        StuckRods y = Given.withLoan(1, 1);
         y.stick(1, 3);
         Check.due("pay(2): no loan, all stuck", y.pay(2), 0);
         y.set(0);
@@ -414,10 +352,10 @@ public final class PromisesTest {
         x.move(8, 2, 5);
         int before = x.count(7);
         Check.due("tidy", x.tidy(), (2 + 1) + (2 + 1));
-        shows("tidy", x, "15 0 0 0 0 0 1 1 3");
+        Check.shows("tidy", x, "15 0 0 0 0 0 1 1 3");
         Check.due("tidy is saved once", x.count(7), before + 1);
         x.undo();
-        shows("tidy undone", x, "15 0 0 0 0 0 0 10 13");
+        Check.shows("tidy undone", x, "15 0 0 0 0 0 0 10 13");
         tidyOfNine();
         tidyOfLoans();
         tidyWhereItCan();
@@ -428,16 +366,16 @@ public final class PromisesTest {
         x.move(3, 1, 4);
         x.move(4, 2, 0);
         Check.due("tidy leaves 9, not 10", x.tidy(), 3);
-        shows("tidy leaves 9, not 10", x, "0 0 0 1 0 9 0 0 0");
+        Check.shows("tidy leaves 9, not 10", x, "0 0 0 1 0 9 0 0 0");
     }
 
     private static void tidyOfLoans() {
-        StuckRods x = withLoan(1, 2);
+        StuckRods x = Given.withLoan(1, 2);
         x.move(1, 1, 4);
         Check.due("tidy pays to 11 and then orders", x.tidy(), 4 + 2 + 1);
-        rodIs("tidy pays and orders", x, 1, 0, 1, 1, 100, 0, 5 + 4 + 2, 2);
-        shows("tidy pays and orders", x, "0 0 0 0 0 0 1 1 0");
-        StuckRods y = withLoan(1, 1);
+        Check.rodIs("tidy pays and orders", x, 1, 0, 1, 1, 100, 0, 5 + 4 + 2, 2);
+        Check.shows("tidy pays and orders", x, "0 0 0 0 0 0 1 1 0");
+        StuckRods y = Given.withLoan(1, 1);
         y.move(1, 2, 5);
         y.stick(2, 3);
         y.move(0, 2, 0);
@@ -452,20 +390,20 @@ public final class PromisesTest {
     }
 
     private static void tidyWhereItCan() {
-        StuckRods x = withLoan(1, 1);
+        StuckRods x = Given.withLoan(1, 1);
         x.move(1, 2, 5);
         x.stick(1, 2);
         Check.due("tidy: no 16, no 6, but 5 with a carry", x.tidy(), 2 + 1);
-        rodIs("not paid, but in order", x, 1, 0, 5, 5, 101);
-        shows("not paid, but in order", x, "0 0 0 0 0 0 1 5 0");
-        StuckRods y = stuckAt(1, 0, 3);
+        Check.rodIs("not paid, but in order", x, 1, 0, 5, 5, 101);
+        Check.shows("not paid, but in order", x, "0 0 0 0 0 0 1 5 0");
+        StuckRods y = Given.stuckAt(1, 0, 3);
         y.set(0);
         y.move(0, 2, 2);
         Check.due("tidy: the carry cannot be done", y.tidy(), 0);
-        shows("tidy: the carry cannot be done", y, "0 0 0 0 0 0 0 3 12");
+        Check.shows("tidy: the carry cannot be done", y, "0 0 0 0 0 0 0 3 12");
         y.set(1);
         Check.due("tidy: the next rod borrows", y.tidy(), 2);
-        rodIs("tidy: the next rod borrows, and cannot pay", y, 1, 0, 3, 3, 101, 3, 3, 1);
+        Check.rodIs("tidy: the next rod borrows, and cannot pay", y, 1, 0, 3, 3, 101, 3, 3, 1);
     }
 
     private static void promise9Append() {
@@ -487,7 +425,7 @@ public final class PromisesTest {
     private static void promise10ClearBuffer() {
         StuckRods x = new StuckRods();
         x.add(0, 1);
-        write(x, "+12");
+        Given.write(x, "+12");
         Check.due("clearBuffer", x.clearBuffer(), 3);
         Check.due("clearBuffer again", x.clearBuffer(), 0);
         Check.due("clearBuffer saves nothing", x.count(7), 1);
@@ -498,7 +436,7 @@ public final class PromisesTest {
 
     private static void errorAt(String text, int due) {
         StuckRods x = new StuckRods();
-        write(x, text);
+        Given.write(x, text);
         long before = x.digest();
         Check.due("firstError of " + text, x.firstError(), due);
         Check.due("firstError changes nothing", x.digest(), before);
@@ -541,17 +479,17 @@ public final class PromisesTest {
 
     private static void promise12Reckon() {
         StuckRods x = new StuckRods();
-        write(x, "+307-21+0");
+        Given.write(x, "+307-21+0");
         Check.due("reckon", x.reckon(), 6);
         Check.due("reckon: whole", x.whole(), 286);
-        shows("reckon", x, "0 0 0 0 0 0 2 8 6");
+        Check.shows("reckon", x, "0 0 0 0 0 0 2 8 6");
         Check.due("reckon clears the buffer", x.clearBuffer(), 0);
         Check.due("reckon is saved once", x.count(7), 1);
         Check.due("reckon: moves", x.count(0), (3 + 3) + (1 + 4 + 1));
         Check.due("reckon undone", x.undo(), 0);
         Check.due("reckon undone: whole", x.whole(), 0);
         Check.due("reckon undone: the buffer stays clear", x.clearBuffer(), 0);
-        write(x, "+987654");
+        Given.write(x, "+987654");
         Check.due("reckon of six digits", x.reckon(), 6);
         Check.due("reckon of six digits: whole", x.whole(), 987654);
         reckonUpTo();
@@ -560,22 +498,22 @@ public final class PromisesTest {
 
     private static void reckonUpTo() {
         StuckRods x = new StuckRods();
-        write(x, "-5");
+        Given.write(x, "-5");
         Check.due("reckon of nothing", x.reckon(), 0);
         Check.due("reckon of nothing is saved", x.count(7), 1);
         Check.due("reckon of nothing clears the buffer", x.clearBuffer(), 0);
-        write(x, "+35-40+2");
+        Given.write(x, "+35-40+2");
         Check.due("reckon up to the 4: the 0 is done, the 4 is not, and nothing behind it", x.reckon(), 3);
         Check.due("reckon up to the 4: whole", x.whole(), 35);
         Check.due("reckon up to the 4 clears the buffer", x.clearBuffer(), 0);
         x.stick(1, 3);
-        write(x, "+111");
+        Given.write(x, "+111");
         Check.due("reckon up to the stuck rod", x.reckon(), 1);
         Check.due("reckon up to the stuck rod: whole", x.whole(), 36);
-        write(x, "+101");
+        Given.write(x, "+101");
         Check.due("reckon of 0 at the stuck rod", x.reckon(), 3);
         Check.due("reckon of 0 at the stuck rod: whole", x.whole(), 137);
-        write(x, "-0-0+0");
+        Given.write(x, "-0-0+0");
         Check.due("reckon of zeros", x.reckon(), 3);
     }
 
@@ -583,12 +521,12 @@ public final class PromisesTest {
         for (String text : new String[] {"", "+", "5", "+1-", "+01", "++1", "+1000000", "+1x", "-12+3-"}) {
             StuckRods x = new StuckRods();
             x.add(3, 4);
-            write(x, text);
+            Given.write(x, text);
             Check.refuses("reckon of " + text, x, ARGUMENT, x::reckon);
             Check.due("reckon of " + text + " leaves the buffer", x.clearBuffer(), text.length());
         }
         StuckRods y = new StuckRods();
-        write(y, "+1".repeat(30));
+        Given.write(y, "+1".repeat(30));
         Check.due("reckon of a full buffer: 15, then 6 and a carry", y.reckon(), 30);
         Check.due("reckon of a full buffer: whole", y.whole(), 30);
     }
@@ -608,8 +546,8 @@ public final class PromisesTest {
         Check.due("undo of pay: the digest", x.digest(), before);
         x.append('-');
         Check.due("undo of add", x.undo(), 3);
-        rodIs("undo of add", x, 1, 0, 0, 0, 100, 3, 0, 0, 1);
-        rodIs("undo of add", x, 0, 2, 5, 15, 100, 0, 7, 0, 16);
+        Check.rodIs("undo of add", x, 1, 0, 0, 0, 100, 3, 0, 0, 1);
+        Check.rodIs("undo of add", x, 0, 2, 5, 15, 100, 0, 7, 0, 16);
         Check.due("undo of stick", x.undo(), 2);
         Check.due("undo of stick: loose", x.rod(1, 4), 0);
         Check.due("undo of move", x.undo(), 1);
@@ -648,25 +586,25 @@ public final class PromisesTest {
     }
 
     private static void undoOfRefused() {
-        StuckRods x = stuckAt(8, 0, 0);
+        StuckRods x = Given.stuckAt(8, 0, 0);
         Check.refuses("a call that throws saves nothing", x, STATE, () -> x.add(8, 1));
         Check.due("undo of stick", x.undo(), 1);
         Check.due("loose again", x.rod(8, 4), 0);
     }
 
     private static void promise14Rod() {
-        StuckRods x = withLoan(1, -2);
+        StuckRods x = Given.withLoan(1, -2);
         x.move(1, 1, 4);
         x.stick(1, 2);
-        rodIs("rod", x, 1, 1, 4, 9, 98, 2, 5, 2, 3);
+        Check.rodIs("rod", x, 1, 1, 4, 9, 98, 2, 5, 2, 3);
         x.stick(1, 1);
-        rodIs("rod", x, 1, 1, 4, 9, 98, 1, 5, 2, 6);
+        Check.rodIs("rod", x, 1, 1, 4, 9, 98, 1, 5, 2, 6);
         x.stick(1, 3);
-        rodIs("rod", x, 1, 1, 4, 9, 98, 3, 5, 2, 1);
-        rodIs("rod", x, 8, 0, 0, 0, 100, 0, 0, 0, 16);
+        Check.rodIs("rod", x, 1, 1, 4, 9, 98, 3, 5, 2, 1);
+        Check.rodIs("rod", x, 8, 0, 0, 0, 100, 0, 0, 0, 16);
         x.stick(1, 0);
         x.pay(1);
-        rodIs("a payment is no change by a carry", x, 1, 1, 2, 7, 100, 0, 7, 2, 16);
+        Check.rodIs("a payment is no change by a carry", x, 1, 1, 2, 7, 100, 0, 7, 2, 16);
         for (int rod : NO_RODS) {
             Check.refuses("rod(" + rod + ", 0)", x, INDEX, () -> x.rod(rod, 0));
             Check.refuses("rod(" + rod + ", 8)", x, INDEX, () -> x.rod(rod, 8));
@@ -682,42 +620,42 @@ public final class PromisesTest {
             x.move(r, 2, 5);
         }
         Check.due("whole of 15s", x.whole(), 1666666665L);
-        StuckRods y = withLoan(8, 9);
+        StuckRods y = Given.withLoan(8, 9);
         Check.due("whole of a loan", y.whole(), 900000000L);
         y.move(8, 2, 5);
         Check.due("whole of 24 at the last rod", y.whole(), 2400000000L);
-        StuckRods z = withLoan(8, -9);
+        StuckRods z = Given.withLoan(8, -9);
         Check.due("whole below 0", z.whole(), -900000000L);
         z.move(7, 0, 5);
         Check.due("whole below 0 with another rod", z.whole(), -850000000L);
     }
 
     private static void promise16Count() {
-        StuckRods x = withLoan(1, 2);
-        borrow(x, 4, -5);
+        StuckRods x = Given.withLoan(1, 2);
+        Given.borrow(x, 4, -5);
         x.move(7, 2, 1);
         x.move(8, 1, 5);
         x.move(6, 1, 4);
         x.stick(7, 1);
         x.stick(5, 2);
         x.stick(3, 3);
-        counts("count", x, sumOfMoves(x), 2, 97, (11 + 10 + 9 + 2 - 5) % 9, 2, 3, 3, 6);
-        StuckRods y = withLoan(1, -9);
-        counts("count of a loan of -9", y, sumOfMoves(y), 1, 91, 0, 0, 0, 3, 6);
+        Check.counts("count", x, sumOfMoves(x), 2, 97, (11 + 10 + 9 + 2 - 5) % 9, 2, 3, 3, 6);
+        StuckRods y = Given.withLoan(1, -9);
+        Check.counts("count of a loan of -9", y, sumOfMoves(y), 1, 91, 0, 0, 0, 3, 6);
         y.move(1, 0, 1);
         Check.due("count(3) of -8", y.count(3), 1);
-        StuckRods z = withLoan(1, 9);
+        StuckRods z = Given.withLoan(1, 9);
         Check.due("count(2) of 9", z.count(2), 109);
         for (int r = 0; r < 9; r++) {
             StuckRods one = new StuckRods();
             one.move(r, 2, 2);
             one.stick(r, r % 3 + 1);
-            counts("count of the rod " + r, one, 4, 0, 100, 3, 1, 1, 3, 2);
+            Check.counts("count of the rod " + r, one, 4, 0, 100, 3, 1, 1, 3, 2);
         }
         for (int r = 1; r < 9; r++) {
-            Check.due("count(1) of the rod " + r, withLoan(r, 2).count(1), 1);
-            Check.due("count(2) of the rod " + r, withLoan(r, -2).count(2), 98);
-            Check.due("count(3) of the rod " + r, withLoan(r, -2).count(3), 7);
+            Check.due("count(1) of the rod " + r, Given.withLoan(r, 2).count(1), 1);
+            Check.due("count(2) of the rod " + r, Given.withLoan(r, -2).count(2), 98);
+            Check.due("count(3) of the rod " + r, Given.withLoan(r, -2).count(3), 7);
         }
         for (int bad : new int[] {-1, 8, 9, Integer.MIN_VALUE, Integer.MAX_VALUE}) {
             Check.refuses("count(" + bad + ")", x, ARGUMENT, () -> x.count(bad));
@@ -801,7 +739,7 @@ public final class PromisesTest {
         x.stick(8, 2);
         Check.due("toShow(5): the ones of the rod 8 are stuck", x.toShow(5), -1);
         Check.due("toShow(500000005)", x.toShow(500000005), 2);
-        StuckRods loans = withLoan(1, 3);
+        StuckRods loans = Given.withLoan(1, 3);
         Check.due("toShow leaves loans as they are", loans.toShow(0), 0);
         x.stick(0, 3);
         Check.due("toShow(500000004): the rod 0 is stuck", x.toShow(500000004), -1);
@@ -813,9 +751,9 @@ public final class PromisesTest {
     private static void promise20CheapestLoan() {
         StuckRods x = new StuckRods();
         Check.due("cheapestLoan of none", x.cheapestLoan(), -1);
-        borrow(x, 2, 3);
-        borrow(x, 5, 2);
-        borrow(x, 8, 2);
+        Given.borrow(x, 2, 3);
+        Given.borrow(x, 5, 2);
+        Given.borrow(x, 8, 2);
         long before = x.digest();
         Check.due("cheapestLoan, of two the lowest", x.cheapestLoan(), 5);
         Check.due("cheapestLoan changes nothing", x.digest(), before);
@@ -825,11 +763,11 @@ public final class PromisesTest {
         Check.due("cheapestLoan: the rod 8 is full", x.cheapestLoan(), 2);
         x.stick(2, 3);
         Check.due("cheapestLoan: none can be paid", x.cheapestLoan(), -1);
-        StuckRods y = withLoan(3, -1);
+        StuckRods y = Given.withLoan(3, -1);
         Check.due("cheapestLoan below 0 that cannot be paid", y.cheapestLoan(), -1);
         y.move(3, 0, 1);
         Check.due("cheapestLoan below 0", y.cheapestLoan(), 3);
-        borrow(y, 1, 5);
+        Given.borrow(y, 1, 5);
         Check.due("cheapestLoan: one move each, the lowest", y.cheapestLoan(), 1);
     }
 
@@ -883,21 +821,30 @@ public final class PromisesTest {
         return hash;
     }
 
-    private static void promise22Digest() {
+    private static StuckRods mixed(String text) {
         StuckRods x = new StuckRods();
-        Check.due("digest of a new one", x.digest(), digestOf(x, ""));
-        borrow(x, 2, 3);
-        borrow(x, 5, -2);
+        Given.borrow(x, 2, 3);
+        Given.borrow(x, 5, -2);
         x.move(4, 1, 3);
         x.stick(4, 1);
         x.stick(7, 2);
-        Check.due("digest", x.digest(), digestOf(x, ""));
+        Given.write(x, text);
+        return x;
+    }
+
+    private static void digestIs(String what, StuckRods x, String text) {
+        Check.due("digest " + what, x.digest(), digestOf(x, text));
+    }
+
+    private static void promise22Digest() {
+        digestIs("of a new one", new StuckRods(), "");
+        digestIs("of something of everything", mixed(""), "");
         String text = "+12-!~3";
-        write(x, text);
-        Check.due("digest with a buffer", x.digest(), digestOf(x, text));
-        Check.due("digest again", x.digest(), digestOf(x, text));
+        StuckRods x = mixed(text);
+        digestIs("with a buffer", x, text);
+        Check.due("digest again", x.digest(), x.digest());
         x.clearBuffer();
-        Check.due("digest with a cleared buffer", x.digest(), digestOf(x, ""));
+        digestIs("with a cleared buffer", x, "");
         digestOfLooseness();
     }
 
